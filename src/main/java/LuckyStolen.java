@@ -101,8 +101,10 @@ public final class LuckyStolen {
         if (what == 0) {
             return yard.owner[stone];
         }
-        int left = yard.luckyNights(stone, night);
-        return what == 2 ? left : left > 0 ? 1 : 0;
+        if (!yard.isLucky(stone, night)) {
+            return 0;
+        }
+        return what == 1 ? 1 : yard.until[stone] - night;
     }
 
     public int luck(int house, int night, int what) {
@@ -530,9 +532,10 @@ public final class LuckyStolen {
         final Text text;
         final Tale tale;
         final int[] owner = new int[MOST_STONES];
-        // The NIGHT of the true THEFT that a STONE can be lucky by, or NONE; thefts[] is its EVENT.
-        final int[] since = new int[MOST_STONES];
+        // The first NIGHT in which a STONE, were it real, is not lucky any more; thefts[] is the EVENT behind it.
+        final int[] until = new int[MOST_STONES];
         final int[] thefts = new int[MOST_STONES];
+        int real = 0;
         int nightsOfLuck = 30;
         int told = 0;
         int against = 0;
@@ -547,9 +550,10 @@ public final class LuckyStolen {
         void begin() {
             for (int s = 0; s < text.stones; s++) {
                 owner[s] = text.houseOf(s);
-                since[s] = NONE;
+                until[s] = 0;
                 thefts[s] = NONE;
             }
+            real = text.realStones();
             told = 0;
             against = 0;
             firstAgainst = NONE;
@@ -582,13 +586,13 @@ public final class LuckyStolen {
                 return;
             }
             int stone = tale.stones[e];
-            since[stone] = NONE;
+            until[stone] = 0;
             thefts[stone] = NONE;
             if (tale.kinds[e] != Tale.THANKS) {
                 owner[stone] = tale.kinds[e] == Tale.LEFT ? NONE : tale.houses[e];
             }
             if (tale.isTrueTheft(e)) {
-                since[stone] = tale.nights[e];
+                until[stone] = tale.nights[e] + nightsOfLuck;
                 thefts[stone] = e;
                 trueThefts++;
             }
@@ -596,7 +600,7 @@ public final class LuckyStolen {
 
         private boolean isLawful(int e) {
             int stone = tale.stones[e];
-            if (!text.has(stone)) {
+            if (stone >= text.stones) {
                 return false;
             }
             switch (tale.kinds[e]) {
@@ -611,22 +615,18 @@ public final class LuckyStolen {
             }
         }
 
-        int nightsIfReal(int stone, int night) {
-            return since[stone] == NONE ? 0 : Math.max(0, since[stone] + nightsOfLuck - night);
+        boolean isReal(int stone) {
+            return (real >> stone & 1) == 1;
         }
 
-        int luckyNights(int stone, int night) {
-            return text.isForged(stone) ? 0 : nightsIfReal(stone, night);
-        }
-
-        boolean isLuckyFor(int house, int stone, int night) {
-            return owner[stone] == house && luckyNights(stone, night) > 0;
+        boolean isLucky(int stone, int night) {
+            return until[stone] > night && isReal(stone);
         }
 
         int luckOf(int house, int night) {
             int lucky = 0;
             for (int s = 0; s < text.stones; s++) {
-                if (isLuckyFor(house, s, night)) {
+                if (owner[s] == house && isLucky(s, night)) {
                     lucky++;
                 }
             }
@@ -640,7 +640,7 @@ public final class LuckyStolen {
         int theftBehind(int house, int night, int i) {
             int before = 0;
             for (int s = 0; s < text.stones; s++) {
-                if (isLuckyFor(house, s, night)) {
+                if (owner[s] == house && isLucky(s, night)) {
                     if (before == i) {
                         return thefts[s];
                     }
@@ -653,7 +653,7 @@ public final class LuckyStolen {
         int luckyHouses(int night) {
             int bits = 0;
             for (int s = 0; s < text.stones; s++) {
-                if (owner[s] != NONE && luckyNights(s, night) > 0) {
+                if (owner[s] != NONE && isLucky(s, night)) {
                     bits |= 1 << owner[s];
                 }
             }
@@ -673,7 +673,7 @@ public final class LuckyStolen {
         int luckyIfReal(int house, int night) {
             int bits = 0;
             for (int s = 0; s < text.stones; s++) {
-                if (owner[s] == house && nightsIfReal(s, night) > 0) {
+                if (owner[s] == house && until[s] > night) {
                     bits |= 1 << s;
                 }
             }
@@ -719,7 +719,7 @@ public final class LuckyStolen {
 
         // A forged STONE's THEFT does as much as none, and none is ahead of all.
         private boolean isWorthStealing(int stone) {
-            return yard.owner[stone] != NONE && !yard.text.isForged(stone);
+            return yard.owner[stone] != NONE && yard.isReal(stone);
         }
 
         // A THEFT makes at most one more HOUSE lucky, so once this is reached no row can be better.
@@ -738,12 +738,12 @@ public final class LuckyStolen {
 
         private int nightsWith(int stone, int house, int night, int nights) {
             int ownerBefore = yard.owner[stone];
-            int sinceBefore = yard.since[stone];
+            int untilBefore = yard.until[stone];
             yard.owner[stone] = house;
-            yard.since[stone] = night;
+            yard.until[stone] = night + yard.nightsOfLuck;
             int sum = nightsFrom(night, nights);
             yard.owner[stone] = ownerBefore;
-            yard.since[stone] = sinceBefore;
+            yard.until[stone] = untilBefore;
             return sum;
         }
 
@@ -760,7 +760,7 @@ public final class LuckyStolen {
             int lucky = 0;
             int twice = 0;
             for (int s = 0; s < yard.text.stones; s++) {
-                if (yard.owner[s] != NONE && yard.luckyNights(s, night) > 0) {
+                if (yard.owner[s] != NONE && yard.isLucky(s, night)) {
                     int bit = 1 << yard.owner[s];
                     twice |= lucky & bit;
                     lucky |= bit;
@@ -770,7 +770,7 @@ public final class LuckyStolen {
             for (int s = 0; s < yard.text.stones; s++) {
                 if (isWorthStealing(s)) {
                     int bit = 1 << yard.owner[s];
-                    boolean spare = yard.luckyNights(s, night) == 0 || (twice & bit) != 0;
+                    boolean spare = !yard.isLucky(s, night) || (twice & bit) != 0;
                     if (spare && (ALL_HOUSES & ~lucky & ~bit) != 0) {
                         return most + 1;
                     }
