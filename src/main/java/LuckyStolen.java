@@ -722,16 +722,18 @@ public final class LuckyStolen {
             return yard.owner[stone] != NONE && yard.isReal(stone);
         }
 
-        // A THEFT makes at most one more HOUSE lucky, so once this is reached no row can be better.
+        // A THEFT adds at most one HOUSE to those that stay lucky anyway, and that for as long as luck lasts;
+        // once so many NIGHTS are reached, no row behind can be better.
         private int ceiling(int night, int nights) {
             int stealable = 0;
             for (int s = 0; s < yard.text.stones; s++) {
                 stealable += isWorthStealing(s) ? 1 : 0;
             }
-            int lucky = Integer.bitCount(yard.luckyHouses(night));
             int sum = 0;
-            for (int i = 1; i <= nights; i++) {
-                sum += Math.min(Math.min(stealable, HOUSES), lucky + i);
+            for (int i = 0; i < nights; i++) {
+                int lucky = Integer.bitCount(yard.luckyHouses(night + i));
+                int more = Math.min(i + 1, yard.nightsOfLuck);
+                sum += Math.min(Math.min(stealable, HOUSES), lucky + more);
             }
             return sum;
         }

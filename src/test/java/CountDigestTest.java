@@ -55,6 +55,31 @@ public final class CountDigestTest {
             nine.event(0, 5 * i > 199 ? 199 : 5 * i, i % 9, i * 3 % 8, i % 10);
         }
         digestIsTold("nine", nine);
+        digestIsTold("luck about the nights that are asked", aroundNight(20));
+        digestIsTold("from night 21 on", aroundNight(21));
+        digestIsTold("from night 60 on", aroundNight(60));
+        digestIsTold("from night 61 on", aroundNight(61));
+        digestIsTold("from night 99 on", aroundNight(99));
+        digestIsTold("from night 0 on", aroundNight(0));
+        digestIsTold("the last night's lets", chainOfTwo());
+    }
+
+    /** One NIGHT of luck, so that a digest that asks for the NIGHT before or behind tells something else. */
+    private static LuckyStolen aroundNight(int night) {
+        LuckyStolen x = Due.with("0r");
+        x.lasts(1);
+        x.event(0, night, 0, 1, 0);
+        return x;
+    }
+
+    /** The best first THEFT of one NIGHT is not that of two, and NIGHT 198 is ahead of the last EVENT. */
+    private static LuckyStolen chainOfTwo() {
+        LuckyStolen x = Due.with("0r1r2r3r4r5r6r7r");
+        for (int s = 0; s < 8; s++) {
+            x.event(0, 199, s, (s + 1) % 8, 0);
+        }
+        x.event(5, 199, 7, 0, 0);
+        return x;
     }
 
     private static void digestIsTold(String when, LuckyStolen x) {

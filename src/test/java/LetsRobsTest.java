@@ -68,6 +68,13 @@ public final class LetsRobsTest {
         }
         z.event(5, 1, 7, 0, 0);
         letsAre(z, "a chain of two", 1, 2, 15, 0);
+        LuckyStolen three = Due.with("0r0r0r");
+        for (int s = 0; s < 3; s++) {
+            three.event(0, 0, s, 3, 0);
+        }
+        letsAre(three, "three in one house", 0, 2, 5, 0);
+        letsAre(three, "three in one house", 0, 3, 8, 0);
+        letsAre(Due.with("0r1f"), "only the first can be stolen", 0, 3, 3, 1);
     }
 
     private static void letsShortLuck() {

@@ -71,6 +71,10 @@ public final class LuckTest {
             x.event(0, 3, 0, 0, 0);
             due.is("kind " + kind + ": stolen anew", x.at(0, 3, 1), 1);
         }
+        LuckyStolen sameNight = Due.with("0r");
+        sameNight.event(0, 0, 0, 1, 0);
+        sameNight.event(1, 0, 0, 2, 0);
+        due.is("stolen and given in night 0", sameNight.at(0, 0, 1), 0);
         LuckyStolen x = Due.with("0r");
         x.event(0, 1, 0, 1, 0);
         x.event(3, 2, 0, 1, 0);
@@ -124,6 +128,8 @@ public final class LuckTest {
         x.event(0, 12, 0, 6, 0);
         due.is("days(7, 0, 299) robbed of one", x.days(7, 0, 299), 13);
         due.is("days(6, 0, 299) with two", x.days(6, 0, 299), 13);
+        x.event(0, 13, 2, 0, 0);
+        due.is("days(-1, 13, 13) with house 0", x.days(-1, 13, 13), 3);
         due.is("days(-2, 0, 0)", x.days(-2, 0, 0), -2);
         due.is("days(8, 0, 0)", x.days(8, 0, 0), -2);
         due.is("days(0, -1, 0)", x.days(0, -1, 0), -2);
@@ -170,6 +176,11 @@ public final class LuckTest {
         due.is("without(1, 299): the find is then against the law", x.without(1, 299), 1);
         due.is("without(2, 299): the last theft is then too", x.without(2, 299), -10);
         due.is("without(3, 299)", x.without(3, 299), -10);
+        LuckyStolen y = Due.with("0r1r");
+        y.event(0, 0, 0, 7, 0);
+        y.event(0, 0, 1, 0, 0);
+        due.is("without(0, 0)", y.without(0, 0), -1);
+        due.is("without(1, 0)", y.without(1, 0), -1);
         due.is("without(-1, 0)", x.without(-1, 0), -10002);
         due.is("without(4, 0)", x.without(4, 0), -10002);
         due.is("without(0, -1)", x.without(0, -1), -10002);
