@@ -29,11 +29,13 @@ public final class SheetsTest {
         due.is("sheet(0, 0, 60)", x.sheet(0, 0, 60), 60);
         due.is("sheet(3, 2, 0)", x.sheet(3, 2, 0), 0);
         x.lay(0, 0, 59, 7);
+        x.lay(0, 0, 0, 8);
         due.is("sheet(0, 1, -1)", x.sheet(0, 1, -1), -15);
         due.is("sheet(0, 1, 61)", x.sheet(0, 1, 61), -2);
         due.is("get(0, 0, 59): refusals change nothing", x.get(0, 0, 59), 7);
         due.is("sheet(0, 0, 60) anew", x.sheet(0, 0, 60), 60);
         due.is("get(0, 0, 59) is 0 at first", x.get(0, 0, 59), 0);
+        due.is("get(0, 0, 0) is 0 at first", x.get(0, 0, 0), 0);
     }
 
     private static void lose() {
