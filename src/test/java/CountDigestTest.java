@@ -60,6 +60,7 @@ public final class CountDigestTest {
         digestIsTold("from night 60 on", aroundNight(60));
         digestIsTold("from night 61 on", aroundNight(61));
         digestIsTold("from night 99 on", aroundNight(99));
+        digestIsTold("from night 100 on", aroundNight(100));
         digestIsTold("from night 0 on", aroundNight(0));
         digestIsTold("the last night's lets", chainOfTwo());
     }
