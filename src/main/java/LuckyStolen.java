@@ -8,6 +8,8 @@ public final class LuckyStolen {
     private static final int LAST_EVENT_NIGHT = 199;
     private static final int LAST_NIGHT = 299;
     private static final int SHEETS = 4;
+    private static final int LEAST_INT = 1 << 31;
+    private static final long LEAST_LONG = 1L << 63;
 
     private static final int NULL = 1, INDEX = 2, CAST = 3, STORE = 4, SIZE = 5;
 
@@ -206,7 +208,7 @@ public final class LuckyStolen {
 
     public long chance(int house, int n, int what) {
         if (!isHouse(house) || !within(n, Guards.MOST_NIGHTS) || !within(what, 1)) {
-            return Long.MIN_VALUE - BAD;
+            return LEAST_LONG - BAD;
         }
         long all = Guards.power(Guards.ALWAYS, n);
         return Guards.lowest(all - Guards.power(guards.awake[house], n), all, what);
@@ -214,10 +216,10 @@ public final class LuckyStolen {
 
     public long waits(int house, int what) {
         if (!isHouse(house) || !within(what, 1)) {
-            return Long.MIN_VALUE - BAD;
+            return LEAST_LONG - BAD;
         }
         int asleep = Guards.ALWAYS - guards.awake[house];
-        return asleep == 0 ? Long.MIN_VALUE - NOT : Guards.lowest(Guards.ALWAYS, asleep, what);
+        return asleep == 0 ? LEAST_LONG - NOT : Guards.lowest(Guards.ALWAYS, asleep, what);
     }
 
     public int careless(int n, int c) {
@@ -264,12 +266,12 @@ public final class LuckyStolen {
 
     public int get(int s, int form, int i) {
         if (!isSheet(s) || !Sheet.isForm(form)) {
-            return Integer.MIN_VALUE;
+            return LEAST_INT;
         }
         int flaw = sheets[s].flawOf(form, i);
         if (flaw != 0) {
             finding = flaw;
-            return Integer.MIN_VALUE;
+            return LEAST_INT;
         }
         return sheets[s].items[i];
     }

@@ -20,6 +20,14 @@ final class Due {
         is(what, so ? 1 : 0, 1);
     }
 
+    void same(String when, String got, String want) {
+        asked++;
+        if (!got.equals(want)) {
+            wrong++;
+            System.out.println(test + ": " + when + ": " + got + ", due is " + want);
+        }
+    }
+
     void end() {
         System.out.println(test + ": " + asked + " answers, " + wrong + " of them wrong");
         if (wrong != 0 || asked == 0) {
