@@ -176,6 +176,12 @@ public final class LetsRobsBoundsTest {
         letsAre("both lucky for two more nights", x, 28, 3, 6, -1);
         letsAre("both lucky for one more: one must go at once", x, 29, 3, 6, 0);
         letsAre("both lucky no more", x, 30, 3, 5, 0);
+        LuckyStolen y = Due.with("0r0r");
+        y.event(0, 0, 0, 1, 0);
+        y.event(0, 0, 1, 1, 0);
+        letsAre("both lucky in one house", y, 0, 1, 2, 0);
+        letsAre("both lucky in one house", y, 0, 2, 4, 0);
+        letsAre("both lucky in one house for one more night", y, 29, 2, 4, 0);
     }
 
     /** "of like rows the least" */

@@ -42,6 +42,7 @@ public final class SheetsBoundsTest {
         writeSheets();
         writeToALostOne();
         writeAsManyAsThereAre();
+        writeNightByNight();
         findingsLatest();
         due.end();
     }
@@ -582,6 +583,20 @@ public final class SheetsBoundsTest {
             due.is("form " + form + ": the most eggs", x.get(0, form, 0), 19);
             due.is("form " + form + ": item 29", x.get(0, form, 29), 19);
             due.is("form " + form + ": item 30", x.get(0, form, 30), 1);
+        }
+    }
+
+    /** "EGGS of a HOUSE at NIGHTS from one on": a theft and the end of its luck within the row */
+    private static void writeNightByNight() {
+        LuckyStolen x = Due.with("0r");
+        x.event(0, 20, 0, 1, 0);
+        x.sheet(0, 0, 60);
+        for (int from = 0; from <= 5; from++) {
+            due.is("write(1, " + from + ", 0)", x.write(1, from, 0), 60);
+            due.is("the night before the theft", x.get(0, 0, 19 - from), 1);
+            due.is("the night of the theft", x.get(0, 0, 20 - from), 3);
+            due.is("the last night of luck", x.get(0, 0, 49 - from), 3);
+            due.is("the night behind it", x.get(0, 0, 50 - from), 1);
         }
     }
 
