@@ -7,7 +7,10 @@ public final class StonesBoundsTest {
         newHasNoStones();
         newHasNoEvents();
         newHasLostSheets();
-        newHasWhatIsTold();
+        newHasLasts();
+        newHasGuards();
+        newHasNoFinding();
+        newHasNoBooks();
         lastOfManyCalls();
         typeTakesEveryByte();
         typeRefusesNoByte();
@@ -58,17 +61,31 @@ public final class StonesBoundsTest {
         }
     }
 
-    /** "30 at first"; "8 at first"; "0 before any"; there are no BOOKS yet. */
-    private static void newHasWhatIsTold() {
+    /** "LASTS (... 30 at first)" */
+    private static void newHasLasts() {
         LuckyStolen x = new LuckyStolen();
         due.is("new: count(5)", x.count(5), 30);
         due.is("new: lasts(30)", x.lasts(30), 30);
-        due.is("new: count(6)", x.count(6), 0);
-        due.is("new: forget()", x.forget(), 0);
-        due.is("new: count(8)", x.count(8), 0);
+    }
+
+    /** "GUARD of a HOUSE (... 8 at first)" */
+    private static void newHasGuards() {
+        LuckyStolen x = new LuckyStolen();
         for (int house = 0; house < 8; house++) {
             due.is("new: guard(" + house + ", 8)", x.guard(house, 8), 8);
         }
+    }
+
+    /** "the latest FINDING (0 before any)" */
+    private static void newHasNoFinding() {
+        due.is("new: count(8)", new LuckyStolen().count(8), 0);
+    }
+
+    /** There are no BOOKS yet. */
+    private static void newHasNoBooks() {
+        LuckyStolen x = new LuckyStolen();
+        due.is("new: count(6)", x.count(6), 0);
+        due.is("new: forget()", x.forget(), 0);
     }
 
     /** "An object is used for at most 512 calls": the last one is answered like the first. */
