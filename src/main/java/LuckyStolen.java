@@ -16,7 +16,7 @@ public final class LuckyStolen {
     private final Text text = new Text();
     private final Tale tale = new Tale();
     private final Yard yard = new Yard(text, tale);
-    private final Lets letter = new Lets(yard);
+    private final Lets letting = new Lets(yard);
     private final Books books = new Books(yard);
     private final Guards guards = new Guards();
     private final Sheet[] sheets = new Sheet[SHEETS];
@@ -176,8 +176,8 @@ public final class LuckyStolen {
             return BAD;
         }
         yard.tellFromStart(night);
-        int most = letter.mostNights(night, n);
-        return what == 0 ? most : letter.picked;
+        int most = letting.mostNights(night, n);
+        return what == 0 ? most : letting.picked;
     }
 
     public int robs(int w, int n, int what) {

@@ -5,6 +5,7 @@ import java.lang.reflect.Method;
 import java.lang.reflect.Modifier;
 import java.nio.file.Files;
 import java.nio.file.Path;
+import java.util.ArrayList;
 import java.util.Arrays;
 import java.util.List;
 import java.util.Set;
@@ -29,6 +30,7 @@ public final class FaceTest {
         methods();
         constants();
         classesInside();
+        sizes();
         source();
         due.end();
     }
@@ -95,6 +97,20 @@ public final class FaceTest {
         }
         due.holds("there are fields", fields > 0);
         due.holds("at most twelve classes", LuckyStolen.class.getDeclaredClasses().length < 12);
+    }
+
+    /** Rule 11: at most seven parameters, some twenty fields beside the constants. */
+    private static void sizes() {
+        List<Class<?>> all = new ArrayList<>(List.of(LuckyStolen.class.getDeclaredClasses()));
+        all.add(LuckyStolen.class);
+        for (Class<?> c : all) {
+            for (Method m : c.getDeclaredMethods()) {
+                due.holds(c.getName() + ": " + told(m) + " takes at most seven", m.getParameterCount() <= 7);
+            }
+            long fields = Arrays.stream(c.getDeclaredFields())
+                    .filter(f -> !Modifier.isStatic(f.getModifiers())).count();
+            due.holds(c.getName() + " has " + fields + " fields", fields <= 20);
+        }
     }
 
     private static String withoutComments(String source) {
